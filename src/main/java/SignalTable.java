@@ -2,8 +2,8 @@ import java.util.Arrays;
 
 /**
  * A table of four, two and two, who may not speak: a pack, deals, tricks, customs told as texts, what can still be,
- * and what play with open cards is worth. Every row is made once, in a constructor or at its first need, and used
- * again, because nothing that a run of calls makes is ever given back.
+ * and what play with open cards is worth. Every row is made in a constructor and used again, because nothing that a
+ * run of calls makes is ever given back.
  */
 public final class SignalTable {
     public static final int NONE = -1;
@@ -870,7 +870,7 @@ public final class SignalTable {
                 } else if (type == Tokens.TRUMP) {
                     readTrump();
                 } else if (type == Tokens.CUSTOM && customs >= MOST_CUSTOMS) {
-                    refuse(FULL);
+                    full();
                 } else if (take(Tokens.CUSTOM)) {
                     readCustom();
                 }
@@ -882,8 +882,8 @@ public final class SignalTable {
             return fault;
         }
 
-        private boolean refuse(int number) {
-            fault = number;
+        private boolean full() {
+            fault = FULL;
             place = tokens.place[at];
             return false;
         }
@@ -902,7 +902,9 @@ public final class SignalTable {
                 type = tokens.type[at];
                 return true;
             }
-            return refuse(type == wanted ? FULL : SYNTAX);
+            fault = type == wanted ? FULL : SYNTAX;
+            place = tokens.place[at];
+            return false;
         }
 
         /** An INT's number, which is told as wrong outside its bounds; NONE if there is no INT. */
@@ -1054,7 +1056,7 @@ public final class SignalTable {
         private boolean unit(int depth) {
             if (type == Tokens.OPENING) {
                 if (depth >= MOST_NESTED) {
-                    return refuse(FULL);
+                    return full();
                 }
                 return take(Tokens.OPENING) && expression(depth + 1) && take(Tokens.CLOSING);
             }
@@ -1432,7 +1434,8 @@ public final class SignalTable {
      * many cards it has, the suit that was led, its best card, and who played that.
      */
     private static final class Open {
-        private static final int MEMORY = 8192;
+        /** A power of two: twice the positions that one deal is seen to need. */
+        private static final int MEMORY = 2048;
         private static final int OLDEST = 1023;
         private static final int PROBES = 8;
 
@@ -1445,8 +1448,8 @@ public final class SignalTable {
         private int trick;
         /** Tricks that are not won yet, the one on the table too. */
         int left;
-        /** Values of positions between tricks, for one deal; made at the first need. */
-        private int[] memory;
+        /** Values of positions between tricks, for one deal: its age, cards left, leader, value. */
+        private final int[] memory = new int[MEMORY];
         private boolean remembering;
         private int age = 1;
         private final int[] memoryDeal = new int[PLAYERS];
@@ -1476,7 +1479,7 @@ public final class SignalTable {
             trick = 0;
             if (laid > 0) {
                 int best = game.bestOnTable(game.size - laid);
-                trick = told(laid, game.ledSuit(), game.cards[best], game.who[best]);
+                trick = trickOf(laid, game.ledSuit(), game.cards[best], game.who[best]);
             }
             for (int p = 0; p < PLAYERS; p++) {
                 hand[p] = game.now[p];
@@ -1486,7 +1489,7 @@ public final class SignalTable {
         private void standRemembering(Game game) {
             stand(game);
             remembering = true;
-            boolean same = memory != null;
+            boolean same = true;
             for (int p = 0; p < PLAYERS; p++) {
                 same = same && memoryDeal[p] == game.dealt[p];
                 memoryDeal[p] = game.dealt[p];
@@ -1496,10 +1499,8 @@ public final class SignalTable {
             }
         }
 
+        /** What older deals left is known by its age, and need not be wiped out. */
         private void renewMemory() {
-            if (memory == null) {
-                memory = new int[MEMORY];
-            }
             age++;
             if (age > OLDEST) {
                 Arrays.fill(memory, 0);
@@ -1507,7 +1508,7 @@ public final class SignalTable {
             }
         }
 
-        private static int told(int laid, int led, int best, int by) {
+        private static int trickOf(int laid, int led, int best, int by) {
             return laid | led << 2 | best << 4 | by << 8;
         }
 
@@ -1587,12 +1588,12 @@ public final class SignalTable {
         /** The trick with one card more; with the fourth its number of cards is 0 again. */
         private int joined(int trick, int card, int player) {
             if ((trick & 3) == 0) {
-                return told(1, suitOf[card], card, player);
+                return trickOf(1, suitOf[card], card, player);
             }
             int best = trick >> 4 & 15;
             int suit = suitOf[card];
             if (suit == suitOf[best] ? card > best : suit == trump) {
-                return told(trick + 1 & 3, trick >> 2 & 3, card, player);
+                return trickOf(trick + 1 & 3, trick >> 2 & 3, card, player);
             }
             return trick & ~3 | trick + 1 & 3;
         }
@@ -1664,7 +1665,7 @@ public final class SignalTable {
 
         /** Where a position's value stands or may be put: the last place that is tried is given up if none is free. */
         private int slotOf(int key) {
-            int at = key * -1640531527 >>> 19;
+            int at = key * -1640531527 >>> 21;
             for (int k = 1; k < PROBES; k++) {
                 int there = memory[at] >>> 3;
                 if (there >>> 18 != age || there == (age << 18 | key)) {
@@ -1956,7 +1957,7 @@ public final class SignalTable {
                     int card = Integer.numberOfTrailingZeros(rest);
                     rest &= rest - 1;
                     int won = solver.playing(card);
-                    count(card, (game.turn & 1) == 0 ? won : solver.left - won);
+                    enter(card, (game.turn & 1) == 0 ? won : solver.left - won);
                 }
             }
         }
@@ -1973,7 +1974,7 @@ public final class SignalTable {
             return weighed;
         }
 
-        private void count(int card, int won) {
+        private void enter(int card, int won) {
             if (won >= 0 && won < COUNTS) {
                 tally[card * COUNTS + won]++;
             }
@@ -2039,12 +2040,12 @@ public final class SignalTable {
 
     /** Games of eight cards that play themselves. */
     private static final class Gains {
-        private static final int MEMORY = 2048;
+        private static final int MEMORY = 1024;
 
         private final Game trial;
         private final Weigher weigher;
-        /** Choices that were weighed, each with its question in front; made at the first need. */
-        private int[] memory;
+        /** Choices that were weighed, each behind its question. */
+        private final int[] memory = new int[MEMORY];
 
         Gains(Game trial, Weigher weigher) {
             this.trial = trial;
@@ -2052,16 +2053,11 @@ public final class SignalTable {
         }
 
         void forget() {
-            if (memory != null) {
-                Arrays.fill(memory, 0);
-            }
+            Arrays.fill(memory, 0);
         }
 
         /** The tricks of side 0 in all of these games. */
         int total(int customs, int seed, int m) {
-            if (memory == null) {
-                memory = new int[MEMORY];
-            }
             int total = 0;
             for (int i = 0; i < m; i++) {
                 trial.dealByLots(seed + i);
@@ -2081,7 +2077,7 @@ public final class SignalTable {
                 return Integer.numberOfTrailingZeros(cards);
             }
             int question = question(cards, weigher.telling(trial, customs));
-            int at = question * -1640531527 >>> 21;
+            int at = question * -1640531527 >>> 22;
             if (memory[at] >>> 3 != question) {
                 weigher.weigh(trial, customs, cards);
                 memory[at] = question << 3 | weigher.best(cards) & 7;
