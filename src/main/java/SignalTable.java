@@ -16,6 +16,7 @@ public final class SignalTable {
 
     private static final int PLAYERS = 4;
     private static final int MOST_CARDS = 16;
+    private static final int MOST_IN_HAND = 4;
     private static final int MOST_CUSTOMS = 6;
     private static final int MOST_BOOKS = 8;
     private static final int MOST_BYTES = 2000;
@@ -1220,7 +1221,8 @@ public final class SignalTable {
         final int[] broken = new int[MOST_CARDS];
         final int[] applies = new int[MOST_CARDS];
         final int[] lied = new int[MOST_CARDS];
-        final int[] winners = new int[PLAYERS];
+        /** As many tricks as a hand has cards. */
+        final int[] winners = new int[MOST_IN_HAND];
         /** Grows with each change, so that what was found out for one state is not taken for another. */
         int stamp;
 
@@ -1434,7 +1436,7 @@ public final class SignalTable {
      * many cards it has, the suit that was led, its best card, and who played that.
      */
     private static final class Open {
-        /** A power of two: twice the positions that one deal is seen to need. */
+        /** A power of two, well above the positions that a deal was seen to need (1123 at most). */
         private static final int MEMORY = 2048;
         private static final int OLDEST = 1023;
         private static final int PROBES = 8;
@@ -1611,7 +1613,7 @@ public final class SignalTable {
             }
             boolean wanting = (player & 1) == 0;
             int above = NONE;
-            for (int k = 0; k < PLAYERS && cards != 0 && low < high; k++) {
+            for (int k = 0; k < MOST_IN_HAND && cards != 0 && low < high; k++) {
                 int card = 31 - Integer.numberOfLeadingZeros(cards);
                 cards ^= 1 << card;
                 boolean alike = above >= 0 && suitOf[card] == suitOf[above] && (others & (1 << above) - 1) >>> card == 0;
