@@ -10,6 +10,7 @@ public final class OpenPlayTest {
         oneTrick();
         twoTricks();
         threeTricks();
+        otherStates();
         losses();
         lies();
         worth();
@@ -152,6 +153,40 @@ public final class OpenPlayTest {
         }
         Check.due("of 16, one trick gone: all three are his", y.mean(1, 0), 3 * y.canBe(0, 0));
         Check.due("spread(1, 0, 3)", y.spread(1, 0, 3), y.canBe(0, 0));
+    }
+
+    /** The same number of cards, but others: nothing that was found out for the one holds for the other. */
+    private static void otherStates() {
+        SignalTable x = Check.table(THREE);
+        x.hands(10, 129, 68);
+        x.play(1);
+        Check.due("behind 1: open()", x.open(), 2);
+        Check.due("behind 1: line(0)", x.line(0), 0);
+        Check.due("behind 1: mean(0, 0)", x.mean(0, 0), behind(1, 0));
+        x.undo();
+        x.play(3);
+        Check.due("behind 3: open()", x.open(), 2);
+        Check.due("behind 3: mean(0, 0)", x.mean(0, 0), behind(3, 0));
+        Check.due("they differ", behind(1, 0) != behind(3, 0), true);
+        x.undo();
+        Check.due("again: mean(1, 1)", x.mean(1, 1), 120);
+        x.hands(10, 192, 5);
+        Check.due("another deal, the same hand: mean(1, 1)", x.mean(1, 1), 120);
+        x.lead(2);
+        Check.due("another leader", x.mean(0, 0) != 120, true);
+        x.hold(0);
+        x.play(0);
+        long mean = x.mean(x.may() == 0 ? 0 : Integer.numberOfTrailingZeros(x.may()), 0);
+        x.restore(0);
+        x.play(2);
+        Check.due("restored", x.mean(Integer.numberOfTrailingZeros(x.may()), 0) != mean, true);
+    }
+
+    private static long behind(int lead, int card) {
+        SignalTable x = Check.table(THREE);
+        x.hands(10, 129, 68);
+        x.play(lead);
+        return x.mean(card, 0);
     }
 
     private static void losses() {
