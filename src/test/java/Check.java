@@ -2,22 +2,35 @@
 final class Check {
     private static int wrong = 0;
     private static int asked = 0;
+    /** The sentence of the document that the next answers are due by; empty if none was told. */
+    private static String sentence = "";
+    private static int sentences = 0;
 
     private Check() {
     }
 
     static void due(String call, long got, long want) {
+        due(call, "" + got, "" + want);
+    }
+
+    static void due(String call, String got, String want) {
         asked++;
-        if (got != want) {
+        if (!got.equals(want)) {
             wrong++;
             if (wrong <= 50) {
-                System.out.println(call + " answered " + got + ", due is " + want);
+                System.out.println(sentence + call + " answered " + got + ", due is " + want);
             }
         }
     }
 
     static void due(String call, boolean got, boolean want) {
         due(call, got ? 1L : 0L, want ? 1L : 0L);
+    }
+
+    /** Where a sentence stands, and its words: all answers up to the next one are a test of it. */
+    static void sentence(String where, String words) {
+        sentence = where + " \"" + words + "\": ";
+        sentences++;
     }
 
     static int wrong() {
@@ -59,7 +72,8 @@ final class Check {
     }
 
     static void end(String name) {
-        System.out.println(name + ": " + asked + " answers, " + wrong + " not as due");
+        String by = sentences > 0 ? " by " + sentences + " sentences" : "";
+        System.out.println(name + ": " + asked + " answers" + by + ", " + wrong + " not as due");
         if (wrong > 0) {
             System.exit(1);
         }

@@ -4,7 +4,8 @@ import java.util.Random;
 
 /** What LANGUAGE.md asks of calls: none throws for any arguments in any state, and none makes anything anew. */
 public final class RoomTest {
-    private static final int CALLS = 512;
+    /** With the text, and with calls that ask ahead of another, 512 at most for an object. */
+    private static final int CALLS = 320;
     private static final String[] TEXTS = {"", "pack 1 4;", "pack 2 4; trump 0; custom a 2 lead says rank == low;",
             "pack 3 4; trump 1; custom a 0 follow when rank < 2 says held / (voids - 1) == 1; custom b 1 lead says 1 == 2;",
             "pack 1 16; custom a 2 follow says high < 9;", "pack 4 4; custom a 2 discard says low == rank or trumps == 0;"};
@@ -37,7 +38,7 @@ public final class RoomTest {
             }
             most = Math.max(most, threads.getThreadAllocatedBytes(self) - start);
         }
-        Check.due("512 calls make nothing, but " + most + " bytes", most < 4000, true);
+        Check.due(CALLS + " calls make nothing, but " + most + " bytes", most < 4000, true);
     }
 
     /** Mostly numbers that mean something, now and then any at all. */

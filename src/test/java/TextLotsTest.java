@@ -7,6 +7,9 @@ public final class TextLotsTest {
         "+", "-", "*", "/", "==", "!=", "<", "<=", "(", ")", "0", "1", "2", "3", "4", "5", "16", "0003", "9999", "12345",
         "a", "b", "abcdefgh", "abcdefghi", "=", "!", ".", ">", "A", "\u00e9", "\0", "packs", "x1"};
 
+    /** An object is used for 512 calls at most. */
+    private static final int CALLS = 512;
+
     private static Random lots;
 
     public static void main(String[] args) {
@@ -14,18 +17,23 @@ public final class TextLotsTest {
         int texts = args.length > 1 ? Integer.parseInt(args[1]) : 40000;
         SignalTable x = new SignalTable();
         Plain y = new Plain();
+        int used = 0;
         for (int i = from; i < from + texts && Check.wrong() < 20; i++) {
             lots = new Random(i);
             String text = text();
-            x = i % 50 == 0 ? new SignalTable() : x;
+            used += text.length() / 20 + 9;
+            if (used > CALLS) {
+                x = new SignalTable();
+                y = new Plain();
+                used = text.length() / 20 + 9;
+            }
             Check.tape(x, text);
             y.tape.append(text);
             Check.due("read() of " + text, x.read(), y.read());
             Check.due("place() of " + text, x.place(), y.place);
-            for (int what = 0; what < 5 && i % 50 != 0; what++) {
+            for (int what = 0; what < 5; what++) {
                 Check.due("count(" + what + ") behind " + text, x.count(what), y.count(what));
             }
-            y = i % 50 == 49 ? new Plain() : y;
         }
         Check.end("TextLotsTest");
     }
