@@ -576,7 +576,6 @@ public final class SignalTable {
         static final int TRUMP = 16;
         static final int CUSTOM = 17;
         static final int LEADS = 18;
-        static final int DISCARDS = 20;
         static final int WHEN = 21;
         static final int SAYS = 22;
         static final int OR = 23;
@@ -926,8 +925,8 @@ public final class SignalTable {
             if (ranks < 0) {
                 return;
             }
-            boolean well = suits >= 1 && suits <= 4 && ranks >= 1 && ranks <= MOST_CARDS;
-            if (well && (suits * ranks > MOST_CARDS || suits * ranks % PLAYERS != 0)) {
+            // If one of both is wrong already, that is told at its place, ahead of this one or the same.
+            if (suits * ranks > MOST_CARDS || suits * ranks % PLAYERS != 0) {
                 refuseLater(WRONG, at - 1);
             }
             if (take(Tokens.SEMICOLON) && writing) {

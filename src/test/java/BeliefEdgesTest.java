@@ -30,7 +30,9 @@ public final class BeliefEdgesTest {
         saysRefused();
         allWays();
         whatWasPlayed();
+        whatHeHadThen();
         believed();
+        believedVariables();
         himself();
         sureOnes();
         refusals();
@@ -273,6 +275,20 @@ public final class BeliefEdgesTest {
         Check.due("ahead of it: after(0, 2, 0)", x.after(0, 2, 0), 12);
     }
 
+    private static void whatHeHadThen() {
+        Check.sentence("III", "by what he had then he did not have to follow, if it is a DISCARD");
+        SignalTable x = Check.table("pack 2 4;");
+        x.hands(bits(0, 3), bits(1, 5), bits(2, 6));
+        put(x, 3, 1, 2, 4);
+        Check.due("3 has none: after(0, 4, 0)", x.after(0, 4, 0), 6);
+        put(x, 0, 5);
+        Check.due("1 had one, but not then: after(0, 6, 0)", x.after(0, 6, 0), 2);
+        put(x, 6, 7);
+        for (int p = 0; p < 4; p++) {
+            Check.due("canBe(" + p + ", 0)", x.canBe(p, 0), 1);
+        }
+    }
+
     private static void believed() {
         Check.sentence("III", "and of each CUSTOM BELIEVED that APPLIES it is TRUE");
         SignalTable x = Check.table("pack 1 8; custom a 0 lead says high - low == 1; custom b 0 lead when rank == 7 says 1 == 2;"
@@ -290,6 +306,25 @@ public final class BeliefEdgesTest {
         Check.due("e of 2: none held one: canBe(1, 16)", x.canBe(1, 16), 0);
         Check.due("canBe(1, 31)", x.canBe(1, 31), 0);
         Check.due("canBe(1, 0)", x.canBe(1, 0), 12);
+    }
+
+    /** The whole game is known at its end: a custom that was a lie leaves no deal, a true one leaves it. */
+    private static void believedVariables() {
+        Check.sentence("III", "and of each CUSTOM BELIEVED that APPLIES it is TRUE");
+        int[] players = {0, 1, 2, 3, 3, 0, 1, 2};
+        int[] kinds = {0, 1, 2, 1, 0, 1, 2, 1};
+        for (int v = 0; v < VARS.length; v++) {
+            for (int i = 0; i < GAME.length; i++) {
+                String custom = "custom a 2 " + KINDS[kinds[i]] + " when trick == " + i / 4 + " and suit == " + VALUES[i][0]
+                        + " and rank == " + VALUES[i][1] + " says " + VARS[v] + " == ";
+                SignalTable x = game(custom + number(VALUES[i][v]) + ";");
+                SignalTable y = game(custom + number(VALUES[i][v] + 1) + ";");
+                for (int p = 0; p < 4; p++) {
+                    Check.due(VARS[v] + " of card " + i + ", true: canBe(" + p + ", 1)", x.canBe(p, 1), 1);
+                    Check.due(VARS[v] + " of card " + i + ", a lie: canBe(" + p + ", 1)", y.canBe(p, 1), p == players[i] ? 1 : 0);
+                }
+            }
+        }
     }
 
     private static void himself() {
@@ -439,8 +474,14 @@ public final class BeliefEdgesTest {
             put(x, card);
         }
         Check.due("3 each: knows(0, 1, 0, 0)", x.knows(0, 1, 0, 0), x.canBe(0, 0));
-        x.undo();
-        Check.due("4 with one: knows(0, 1, 0, 0)", x.knows(0, 1, 0, 0), -2);
+        for (int leader = 0; leader < 4; leader++) {
+            x.hands(0x000f, 0x00f0, 0x0f00);
+            x.lead(leader);
+            for (int i = 0; i < 3; i++) {
+                put(x, (leader + i) % 4 * 4);
+            }
+            Check.due("4 with " + x.turn() + " alone: knows(0, 1, 0, 0)", x.knows(0, 1, 0, 0), -2);
+        }
         x = Check.table("pack 3 4; custom a 2 lead says 1 == 1;");
         x.deal(3);
         Check.due("3 from the start: knows(0, 1, 0, 0)", x.knows(0, 1, 0, 0) >= 0, true);

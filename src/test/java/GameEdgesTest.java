@@ -316,6 +316,11 @@ public final class GameEdgesTest {
         put(x, 2);
         shows(x, 1, 1, 4);
         Check.due("revokes(2)", x.revokes(2), 1);
+        x.hands(bits(0, 1), bits(4, 5), bits(2, 6));
+        put(x, 0, 4, 2);
+        Check.due("the last one of a trick: revoke(7)", x.revoke(7), 4);
+        put(x, 3);
+        shows(x, 3, 1, 4);
     }
 
     private static void befores() {

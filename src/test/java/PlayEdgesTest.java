@@ -25,6 +25,8 @@ public final class PlayEdgesTest {
         gainRefused();
         best();
         theGameStays();
+        otherStates();
+        otherTexts();
         manyCalls();
         Check.end("PlayEdgesTest");
     }
@@ -554,6 +556,67 @@ public final class PlayEdgesTest {
         Check.due("mean(2, 7)", x.mean(2, 7), mean);
         Check.due("undo()", x.undo(), 0);
         Check.due("who leads", x.turn(), 2);
+    }
+
+    /** What was found out for one state is not taken for another. */
+    private static void otherStates() {
+        Check.sentence("Promise 14", "The last CARD is taken back");
+        for (int seed = 0; seed < 20; seed++) {
+            SignalTable x = Check.table(THREE);
+            x.deal(seed);
+            String none = asked(x);
+            for (int i = 0; i < 2; i++) {
+                int card = i == 0 ? Integer.numberOfTrailingZeros(x.may()) : 31 - Integer.numberOfLeadingZeros(x.may());
+                put(x, card);
+                SignalTable y = Check.table(THREE);
+                y.deal(seed);
+                y.play(card);
+                Check.due("deal " + seed + ", behind " + card, asked(x), asked(y));
+                x.undo();
+                Check.due("deal " + seed + ", taken back", asked(x), none);
+            }
+            x.lead(1);
+            SignalTable y = Check.table(THREE);
+            y.deal(seed);
+            y.lead(1);
+            Check.due("deal " + seed + ", 1 leads", asked(x), asked(y));
+            x.deal(seed + 1);
+            y = Check.table(THREE);
+            y.deal(seed + 1);
+            Check.due("another deal", asked(x), asked(y));
+        }
+    }
+
+    private static String asked(SignalTable x) {
+        StringBuilder b = new StringBuilder("open " + x.open() + " line");
+        for (int i = 0; i < 8; i++) {
+            b.append(' ').append(x.line(i));
+        }
+        for (int customs = 0; customs < 8; customs += 7) {
+            b.append("; choice ").append(x.choice(customs)).append(" safe ").append(x.safe(customs, 0)).append(' ')
+                    .append(x.safe(customs, 1)).append(" loss ").append(x.loss(customs)).append(" worth ").append(x.worth(customs));
+        }
+        return b.append(" mean ").append(x.mean(Integer.numberOfTrailingZeros(x.may()), 0)).toString();
+    }
+
+    private static void otherTexts() {
+        Check.sentence("Terms", "else it is in place of the one ahead");
+        String[] texts = {THREE, THREE.replace("trump 0", "trump 1"), "pack 4 2;" + THREE.substring(9), THREE.replace("held == 2", "held < 3"),
+            THREE.replace("rank == low", "rank == high"), "pack 1 8; custom a 2 lead says 1 == 2;" + THREE.substring(THREE.indexOf("custom b"))};
+        SignalTable x = new SignalTable();
+        for (String text : texts) {
+            Check.tape(x, text);
+            Check.due("read()", x.read(), 0);
+            x.hands(bits(1, 3), bits(0, 7), bits(2, 6));
+            SignalTable y = Check.table(text);
+            y.hands(bits(1, 3), bits(0, 7), bits(2, 6));
+            Check.due(text, asked(x), asked(y));
+            for (int customs : new int[] {1, 7}) {
+                Check.due(text + " gain(" + customs + ", 0, 20)", x.gain(customs, 0, 20), y.gain(customs, 0, 20));
+                Check.due(text + " gain(" + customs + ", 60, 20)", x.gain(customs, 60, 20), y.gain(customs, 60, 20));
+                Check.due(text + " gain(" + customs + ", 140, 20)", x.gain(customs, 140, 20), y.gain(customs, 140, 20));
+            }
+        }
     }
 
     private static void manyCalls() {

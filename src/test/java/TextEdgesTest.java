@@ -27,6 +27,8 @@ public final class TextEdgesTest {
         wrong();
         aFaultChangesNothing();
         aTextInPlace();
+        nothingOfTheOld();
+        textAfterText();
         aNewObject();
         feeding();
         takingBack();
@@ -186,6 +188,9 @@ public final class TextEdgesTest {
         holds("1 == 1 or 1 == 1 and 1 == 2", true);
         holds("1 == 2 and 1 == 1 or 1 == 1", true);
         holds("1 == 2 or 1 == 2 or 1 == 1", true);
+        holds("1 == 1 or 1 == 2 or 1 == 2", true);
+        holds("1 == 2 or 1 == 1 or 1 == 2 or 1 == 2", true);
+        holds("1 == 2 or 1 == 2 and 1 == 1 or 1 == 2", false);
         holds("1 == 1 and 1 == 1 and 1 == 2", false);
         holds("not 1 == 1 or 1 == 1", true);
     }
@@ -511,6 +516,44 @@ public final class TextEdgesTest {
         }
     }
 
+    private static void nothingOfTheOld() {
+        Check.sentence("Terms", "it is in place of the one ahead: nothing is dealt");
+        SignalTable x = Check.table("pack 2 4; trump 1; custom a 2 lead says 1 == 2;");
+        x.hands(17, 34, 136);
+        for (int card : new int[] {0, 5, 3, 2}) {
+            x.revoke(card);
+        }
+        Check.due("a revoke: revokes(0)", x.revokes(0), 1);
+        x.read();
+        Check.due("card(0, 0)", x.card(0, 0), -1);
+        Check.due("says(0, 0, 0)", x.says(0, 0, 0), -1);
+        Check.due("winner(0)", x.winner(0), -1);
+        Check.due("tricks(0)", x.tricks(0), 0);
+        Check.due("tricks(1)", x.tricks(1), 0);
+        Check.due("revokes(0)", x.revokes(0), 0);
+        Check.due("undo()", x.undo(), -1);
+        Check.due("play(1)", x.play(1), -1);
+        Check.due("lead(1)", x.lead(1), false);
+        Check.due("hold(0)", x.hold(0), false);
+        Check.due("line(0)", x.line(0), -1);
+        Check.due("lies(1)", x.lies(1), -1);
+        Check.due("hand(0, true)", x.hand(0, true), -1);
+        Check.due("canBe(0, 0)", x.canBe(0, 0), -1);
+    }
+
+    private static void textAfterText() {
+        Check.sentence("Terms", "else it is in place of the one ahead");
+        SignalTable x = new SignalTable();
+        for (int i = 0; i < 20; i++) {
+            Check.tape(x, "pack 1 4; custom a 0 lead says rank" + "+1".repeat(60) + " == " + (60 + i % 4) + ";");
+            Check.due("read() of text " + i, x.read(), 0);
+            Check.due("openings(0, 1) by text " + i, x.openings(0, 1), 1);
+        }
+        Check.tape(x, "pack 1 4; custom a 0 lead says 1 == 1" + "+0".repeat(190) + ";");
+        Check.due("read()", x.read(), 0);
+        Check.due("openings(0, 1)", x.openings(0, 1), 4);
+    }
+
     // ---- promises 1 to 5
 
     private static void aNewObject() {
@@ -571,6 +614,12 @@ public final class TextEdgesTest {
         Check.due("what comes behind", x.count(7), 8);
         Check.due("read()", x.read(), 0);
         Check.due("count(3)", x.count(3), 1);
+        takenBack("trump 1; trumpet", 7, 0, -1);
+        takenBack("trump 12;", 2, 1, 7);
+        takenBack("trump 1;", 1, 1, 7);
+        takenBack("custom a 0 lead says 1 == 1;", 4, 1, 23);
+        takenBack("custom a 0 lead says 1 <= 1;", 4, 1, 24);
+        takenBack("pack 2 45;trump 9;", 8, 5, 7);
         Check.sentence("Promise 3", "NONE, and nothing goes, if it has not so many, or n is below 0.");
         Check.due("back(1) of an empty tape", x.back(1), -1);
         Check.due("back(0) of an empty tape", x.back(0), 0);
@@ -582,6 +631,15 @@ public final class TextEdgesTest {
         Check.due("count(7)", x.count(7), 8);
         Check.due("read()", x.read(), 0);
         Check.due("count(3)", x.count(3), 0);
+    }
+
+    /** What went is not read, although it may still be there somewhere. */
+    private static void takenBack(String text, int n, int number, int place) {
+        SignalTable x = new SignalTable();
+        Check.tape(x, text);
+        Check.due("back(" + n + ")", x.back(n), text.length() - n);
+        Check.due("read() of " + text + " less " + n, x.read(), number);
+        Check.due("its place", x.place(), place);
     }
 
     private static void reading() {

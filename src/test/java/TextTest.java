@@ -6,12 +6,6 @@ public final class TextTest {
         aNewObject();
         theTape();
         theTapesEnd();
-        takenBack("custom a 0 lead says 1 == 1;", 4, 1, 23);
-        takenBack("custom a 0 lead says 1 <= 1;", 4, 1, 24);
-        takenBack("trump 1;", 1, 1, 7);
-        takenBack("trump 12;", 2, 1, 7);
-        takenBack("trump 1; trumpet", 7, 0, -1);
-        takenBack("pack 2 45;trump 9;", 8, 5, 7);
         syntax();
         tokens();
         room();
@@ -52,15 +46,6 @@ public final class TextTest {
         Check.due("feed of high bytes", x.feed(-1, -1, -1, -1, -1), 20);
         Check.due("read() of them", x.read(), 1);
         Check.due("place()", x.place(), 0);
-    }
-
-    /** What was taken back from the tape is not there, although its bytes may be. */
-    private static void takenBack(String text, int n, int number, int place) {
-        SignalTable x = new SignalTable();
-        Check.tape(x, text);
-        Check.due("back(" + n + ")", x.back(n), text.length() - n);
-        Check.due("read() of " + text + " less " + n, x.read(), number);
-        Check.due("its place", x.place(), place);
     }
 
     private static void theTapesEnd() {
