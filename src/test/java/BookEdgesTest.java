@@ -11,6 +11,7 @@ public final class BookEdgesTest {
         whatIsKept();
         told();
         booksStay();
+        booksAnew();
         openingsOfPacks();
         firstLeads();
         openingsRefused();
@@ -167,6 +168,28 @@ public final class BookEdgesTest {
         x.deal(2);
         Check.due("another deal: told(1, 1, 0)", x.told(1, 1, 0), 4);
         Check.due("count(6)", x.count(6), 1);
+    }
+
+    private static void booksAnew() {
+        Check.sentence("Terms", "no BOOK is kept");
+        SignalTable x = Check.table(FOUR);
+        for (int text = 0; text < 3; text++) {
+            for (int i = 0; i < 3; i++) {
+                game(x, 1, 3, 0, 2);
+                Check.due("text " + text + ": book()", x.book(), i);
+            }
+            Check.due("told(0, 3, 0)", x.told(0, 3, 0), 3);
+            Check.due("told(0, 3, 1)", x.told(0, 3, 1), 3);
+            Check.due("told(1, 3, 0)", x.told(1, 3, 0), 6);
+            Check.due("told(1, 2, 1)", x.told(1, 2, 1), 2);
+            Check.tape(x, FOUR);
+            Check.due("read()", x.read(), 0);
+            Check.due("count(6)", x.count(6), 0);
+            Check.due("kept(1)", x.kept(1), -1);
+        }
+        game(x, 0, 1, 2, 3);
+        Check.due("book()", x.book(), 0);
+        Check.due("nothing of the old ones: told(0, 1, 1)", x.told(0, 1, 1), 0);
     }
 
     // ---- promises 40 to 42

@@ -12,6 +12,7 @@ public final class TextEdgesTest {
         signs();
         longest();
         grammar();
+        goingOn();
         packs();
         severalPacks();
         trumps();
@@ -193,6 +194,66 @@ public final class TextEdgesTest {
         holds("1 == 2 or 1 == 2 and 1 == 1 or 1 == 2", false);
         holds("1 == 1 and 1 == 1 and 1 == 2", false);
         holds("not 1 == 1 or 1 == 1", true);
+    }
+
+    /** Which tokens go on behind some beginnings; every other one is a fault at its place. */
+    private static void goingOn() {
+        Check.sentence("Terms", "1 SYNTAX: a TOKEN, or what is none, with which no text goes on.");
+        String units = " 1 count ( suit rank led trick before held high low voids trumps ";
+        String signs = " + - * / ";
+        String relations = " == != < <= ";
+        goesOn("", " pack trump custom ");
+        goesOn("pack ", " 1 ");
+        goesOn("pack 4 ", " 1 ");
+        goesOn("pack 4 4 ", " ; ");
+        goesOn("pack 4 4; ", " pack trump custom ");
+        goesOn("trump ", " 1 ");
+        goesOn("trump 1 ", " ; ");
+        goesOn("trump 1; ", " pack trump custom ");
+        goesOn("custom ", " zz ");
+        goesOn("custom a ", " 1 ");
+        goesOn("custom a 0 ", " lead follow discard ");
+        for (String kind : new String[] {"lead", "follow", "discard"}) {
+            String start = "custom a 0 " + kind + " ";
+            goesOn(start, " when says ");
+            goesOn(start + "when ", " not" + units);
+            goesOn(start + "when 1 == 1 ", signs + " and or says ");
+            goesOn(start + "when 1 == 1 says ", " not" + units);
+        }
+        String says = "custom a 0 lead says ";
+        goesOn(says, " not" + units);
+        goesOn(says + "not ", " not" + units);
+        goesOn(says + "1 ", signs + relations);
+        goesOn(says + "suit ", signs + relations);
+        goesOn(says + "trumps ", signs + relations);
+        goesOn(says + "count ", " 1 ");
+        goesOn(says + "count 1 ", signs + relations);
+        goesOn(says + "( ", units);
+        goesOn(says + "( 1 ", signs + " ) ");
+        goesOn(says + "( 1 ) ", signs + relations);
+        goesOn(says + "1 + ", units);
+        goesOn(says + "1 * ", units);
+        goesOn(says + "1 == ", units);
+        goesOn(says + "1 <= 1 ", signs + " and or ; ");
+        goesOn(says + "1 == ( 1 ", signs + " ) ");
+        goesOn(says + "1 == 1 and ", " not" + units);
+        goesOn(says + "1 == 1 or ", " not" + units);
+        goesOn(says + "1 == 1 or 1 < 1 ", signs + " and or ; ");
+        goesOn(says + "1 == 1; ", " pack trump custom ");
+    }
+
+    private static void goesOn(String start, String with) {
+        String tokens = String.join(" ", WORDS) + " ; + - * / == != < <= ( ) 1 zz = ! ? > abcdefghi 12345";
+        for (String token : tokens.split(" ")) {
+            String text = start + token;
+            if (!with.contains(" " + token + " ")) {
+                Check.fault(text, 1, start.length());
+            } else if (token.equals(";")) {
+                Check.fault(text, 0, -1);
+            } else {
+                Check.fault(text, 1, text.length());
+            }
+        }
     }
 
     // ---- Terms: what a text tells
@@ -557,6 +618,8 @@ public final class TextEdgesTest {
     // ---- promises 1 to 5
 
     private static void aNewObject() {
+        Check.sentence("The public face", "public static final int NONE = -1");
+        Check.due("NONE", SignalTable.NONE, -1);
         Check.sentence("Promise 1", "As if an empty text had been read.");
         SignalTable x = new SignalTable();
         String made = Seen.of(x);
@@ -615,6 +678,8 @@ public final class TextEdgesTest {
         Check.due("read()", x.read(), 0);
         Check.due("count(3)", x.count(3), 1);
         takenBack("trump 1; trumpet", 7, 0, -1);
+        takenBack("trump 1; trumpet", 2, 1, 14);
+        takenBack("trump 12345", 1, 1, 10);
         takenBack("trump 12;", 2, 1, 7);
         takenBack("trump 1;", 1, 1, 7);
         takenBack("custom a 0 lead says 1 == 1;", 4, 1, 23);
